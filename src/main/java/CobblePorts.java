@@ -314,11 +314,11 @@ public final class CobblePorts {
     }
 
     private static int partOfFraction(int upper, int lower, int what) {
-        int divisor = greatestDivisor(lower, upper);
-        if (upper <= 0 || divisor <= 0) {
+        if (upper <= 0) {
             return what;
         }
-        return (what == 0 ? upper : lower) / divisor;
+        int divisor = greatestDivisor(lower, upper);
+        return (what == 0 ? upper : lower) / Math.max(1, divisor);
     }
 
     private static int greatestDivisor(int a, int b) {
@@ -504,8 +504,8 @@ public final class CobblePorts {
         static final int END = 0;
         static final int WORD = 1;
         static final int NUMBER = 2;
+        /* A byte that is no TOKEN counts as one too: it stands nowhere, so it needs no kind of its own. */
         static final int SIGN = 3;
-        static final int NO_TOKEN = 4;
         private static final int MOST_DIGITS = 4;
 
         final byte[] bytes = new byte[MOST_BYTES];
@@ -549,7 +549,7 @@ public final class CobblePorts {
                     number = end - start < MOST_DIGITS ? number * 10 + (bytes[end] - '0') : NONE;
                 }
             } else {
-                kind = isSignByte(bytes[start]) ? SIGN : NO_TOKEN;
+                kind = SIGN;
                 end++;
             }
         }
@@ -580,10 +580,6 @@ public final class CobblePorts {
 
         private static boolean isDigit(int b) {
             return b >= '0' && b <= '9';
-        }
-
-        private static boolean isSignByte(int b) {
-            return b == ';' || b == '<' || b == '=' || b == '/' || (b >= '(' && b <= '+') || b == '-';
         }
     }
 
@@ -1301,7 +1297,6 @@ public final class CobblePorts {
         int seekBest(World world, State state, int port) {
             pavedPort = port;
             leastMud = NONE;
-            mostCargo = 0;
             planTrips(state);
             tryLegs(world, state, 0);
             return leastMud;

@@ -10,6 +10,7 @@ public final class FloodTest {
         floodsAndUndo();
         images();
         imagesOfRoutes();
+        imageOfThirty();
         DUE.end();
     }
 
@@ -190,5 +191,34 @@ public final class FloodTest {
         DUE.is("it fits again", x.fits(), 1);
         DUE.is("the load again", x.load(0), 1);
         DUE.noSuch("of one leg", () -> x.load(1));
+        x.forget();
+        x.read(1, 1, 4);
+        x.read(0, 1, 4);
+        x.restore();
+        DUE.is("the origin that was read", x.fits(), 1);
+    }
+
+    private static void imageOfThirty() {
+        CobblePorts x = Due.told("port 40;port 0;stones 0 3 1;plain 2 0;");
+        for (int i = 0; i < 30; i++) {
+            x.sail(0, 1 - (i & 1), i % 3);
+        }
+        int price = x.port(0, 4);
+        String street = Due.street(x, 0);
+        x.image();
+        for (int i = 0; i < 30; i++) {
+            x.undo();
+        }
+        x.flood(0, 3, 9);
+        for (int i = 0; i < 30; i++) {
+            x.sail(0, 1 - (i & 1), 2 - i % 2);
+        }
+        x.restore();
+        DUE.is("price behind thirty", x.port(0, 4), price);
+        DUE.is("street behind thirty", Due.street(x, 0), street);
+        for (int i = 29; i >= 0; i--) {
+            DUE.is("undone " + i, x.undo(), i);
+        }
+        DUE.is("street at first", Due.street(x, 0), "0 1 2");
     }
 }

@@ -26,8 +26,9 @@ public final class TextTest {
         DUE.is("new fault", x.fault(), -1);
         DUE.is("new undo", x.undo(), -1);
         DUE.is("new restore", x.restore() ? 1 : 0, 0);
-        DUE.is("new fits", x.fits(), 1);
         DUE.noSuch("new load", () -> x.load(0));
+        DUE.is("new fits", x.fits(), 1);
+        DUE.noSuch("load of no legs", () -> x.load(0));
         DUE.noSuch("new port", () -> x.port(0, 0));
         DUE.noSuch("new stone", () -> x.stone(0, 0));
         DUE.noSuch("new street", () -> x.street(0, 0));
@@ -228,6 +229,10 @@ public final class TextTest {
         fault(x, "tariff port;", 3, 7);
         fault(x, "tariff and;", 3, 7);
         fault(x, "tariff squares;", 3, 7);
+        fault(x, "tariff a;", 3, 7);
+        fault(x, "tariff z;", 3, 7);
+        fault(x, "tariff `;", 1, 7);
+        fault(x, "tariff {;", 1, 7);
         fault(x, "tariff 1+not 1;", 3, 9);
         fault(x, "tariff 1<not 1;", 3, 9);
         fault(x, "tariff 1*or;", 3, 9);
