@@ -10,20 +10,22 @@ final class Due {
 
     private int wrong = 0;
     private int looked = 0;
+    private String sentence = "";
+
+    /** The document's words that the next answers rest on: they are told where one is wrong. */
+    void about(String words) {
+        sentence = "[" + words + "] ";
+    }
 
     void is(String what, long got, long want) {
-        looked++;
-        if (got != want) {
-            wrong++;
-            System.out.println(what + " answered " + got + ", due is " + want);
-        }
+        is(what, Long.toString(got), Long.toString(want));
     }
 
     void is(String what, String got, String want) {
         looked++;
         if (!got.equals(want)) {
             wrong++;
-            System.out.println(what + " answered " + got + ", due is " + want);
+            System.out.println(sentence + what + " answered " + got + ", due is " + want);
         }
     }
 
@@ -79,6 +81,47 @@ final class Due {
             row.append(place == 0 ? "" : " ").append(x.street(port, place));
         }
         return row.toString();
+    }
+
+    /** All that can be asked without a change, but for the tape and the FAULT's place. */
+    static String dump(CobblePorts x) {
+        StringBuilder all = new StringBuilder();
+        all.append("status ").append(x.count(9)).append(" refused ").append(x.count(10)).append(' ').append(x.count(11)).append('\n');
+        row(all, "counts", 8, x::count);
+        int ports = x.count(0);
+        for (int port = 0; port < ports; port++) {
+            int p = port;
+            row(all, "port", 6, what -> x.port(p, what));
+            row(all, "street", x.port(p, 2), place -> x.street(p, place));
+            row(all, "gaps", ports, to -> x.gap(p, to));
+            row(all, "horses", ports, home -> x.horse(p, home));
+        }
+        for (int stone = 0; stone < x.count(1); stone++) {
+            int s = stone;
+            row(all, "stone", 6, what -> x.stone(s, what));
+            row(all, "met", s, other -> x.met(s, other));
+        }
+        for (int ship = 0; ship < x.count(2); ship++) {
+            int s = ship;
+            row(all, "ship", 4, what -> x.ship(s, what));
+        }
+        for (int voyage = 0; voyage < x.count(3); voyage++) {
+            int v = voyage;
+            row(all, "voyage", 6, what -> x.voyage(v, what));
+        }
+        for (int i = 0; i < 5; i++) {
+            int k = i;
+            all.append("load ").append(outcome(() -> x.load(k))).append('\n');
+        }
+        return all.toString();
+    }
+
+    private static void row(StringBuilder all, String name, int many, java.util.function.IntUnaryOperator look) {
+        all.append(name);
+        for (int i = 0; i < many; i++) {
+            all.append(' ').append(look.applyAsInt(i));
+        }
+        all.append('\n');
     }
 
     private static int number(byte[] bytes, int at) {
