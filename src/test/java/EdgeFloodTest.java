@@ -27,6 +27,7 @@ public final class EdgeFloodTest {
         whatItKeepsNot();
         imageOfNothing();
         imageOfAll();
+        tenThatWereRead();
         ownStones();
         DUE.end();
     }
@@ -516,6 +517,30 @@ public final class EdgeFloodTest {
             int ship = i % 3;
             at[ship] = (at[ship] + 1 + i % 2) % 6;
             DUE.is("it sails", x.sail(ship, at[ship], cargo) >= 0 ? 1 : 0, 1);
+        }
+    }
+
+    private static void tenThatWereRead() {
+        DUE.about("AN IMAGE keeps what was READ: ten");
+        for (int changed = 0; changed < 10; changed++) {
+            CobblePorts x = Due.told("port 0;port 0;port 0;stones 0 3 1;stones 1 1 1;plain 3 0;");
+            x.leg(0, 2);
+            for (int i = 0; i < 10; i++) {
+                x.read(i % 2, i % 2, 1);
+            }
+            x.image();
+            for (int what = 0; what < 3; what++) {
+                x.forget();
+                for (int i = 0; i < 10; i++) {
+                    boolean other = i == changed;
+                    x.read(other && what == 0 ? 2 : i % 2, other && what == 1 ? 2 : i % 2, other && what == 2 ? 40 : 1);
+                }
+                DUE.is("others fit not", x.fits(), 0);
+                x.restore();
+                DUE.is("how many", x.count(5), 10);
+                DUE.is("they fit", x.fits(), 1);
+                DUE.is("their load", x.load(0), 1);
+            }
         }
     }
 

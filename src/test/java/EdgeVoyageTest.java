@@ -547,6 +547,23 @@ public final class EdgeVoyageTest {
     }
 
     private static void tollOfOne() {
+        DUE.about("VALUES: 'square', 'origin', 'from', 'to' (PORTS): the least and the most of each");
+        for (String value : new String[] {"square", "origin", "from", "to"}) {
+            for (int n = 0; n < 6; n++) {
+                CobblePorts x = Due.told("port 0;".repeat(6) + "stones " + n + " 1 " + (9 - n) + ";plain 1 " + n + ";tariff " + value + ";");
+                int to = (n + 1) % 6;
+                int next = (n + 3) % 6;
+                x.sail(0, to, 0);
+                x.sail(0, next, 0);
+                boolean stays = value.equals("square") || value.equals("origin");
+                int first = value.equals("square") ? 9 - n : value.equals("to") ? to : n;
+                DUE.is(value + " by the voyage 0", x.voyage(0, 5), first);
+                DUE.is(value + " by the voyage 1", x.voyage(1, 5), stays ? first : value.equals("to") ? next : to);
+            }
+        }
+        CobblePorts zero = Due.told("port 0;port 0;stones 0 1 0;plain 1 0;tariff square-1;");
+        zero.sail(0, 1, 0);
+        DUE.is("square 0", zero.voyage(0, 5), -1);
         DUE.about("VALUES: 'many' (how many it lays), 'month' (the VOYAGE's number)");
         CobblePorts x = Due.told("port 0;port 0;stones 0 9 9;plain 8 0;tariff many*100+month;");
         DUE.is("eight", x.sail(0, 1, 0), 8);

@@ -83,6 +83,9 @@ public final class FaceTest {
         for (int i = 0; i < lines.size(); i++) {
             String line = lines.get(i);
             int deep = line.length() - line.stripLeading().length();
+            boolean made = line.contains("new ") && !line.contains("throw new ") && !line.contains("private final ") && !line.contains("        final ");
+            boolean trip = line.contains("trips[leg] = new Trip();");
+            DUE.is("no call makes what stays in the room, line " + (i + 1), made && !trip ? 1 : 0, 0);
             if ((deep == 4 || deep == 8) && line.endsWith("{") && line.contains("(")) {
                 int lasts = lines.subList(i, lines.size()).indexOf(" ".repeat(deep) + "}");
                 DUE.is("sixty lines are enough from line " + (i + 1), lasts > 0 && lasts <= 60 ? 1 : 0, 1);
